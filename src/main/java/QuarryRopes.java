@@ -256,7 +256,7 @@ public final class QuarryRopes {
             return NONE;
         }
         line.makeEmpty();
-        writeTree(now.trees.headOf(block), 0);
+        writeTree(line, now.trees, now.trees.headOf(block), 0);
         return line.length;
     }
 
@@ -366,14 +366,14 @@ public final class QuarryRopes {
         };
     }
 
-    private void writeTree(int block, int depth) {
+    private static void writeTree(Line line, Trees trees, int block, int depth) {
         if (block < 0 || depth >= BLOCKS) {
             return;
         }
         line.addSign('(');
-        writeTree(now.trees.leftOf(block), depth + 1);
+        writeTree(line, trees, trees.leftOf(block), depth + 1);
         line.addNumber(block);
-        writeTree(now.trees.rightOf(block), depth + 1);
+        writeTree(line, trees, trees.rightOf(block), depth + 1);
         line.addSign(')');
     }
 

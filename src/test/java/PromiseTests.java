@@ -547,6 +547,74 @@ public final class PromiseTests {
         }
     }
 
+    /** All blocks in one hang, each on the one before, as 16 ropes or, walked down, as one. */
+    private static void deepest() {
+        QuarryRopes x = new QuarryRopes();
+        for (int block = 0; block < 16; block++) {
+            x.block(block);
+        }
+        for (int block = 15; block > 0; block--) {
+            x.hang(block, block - 1);
+        }
+        promise = 20;
+        due("ropesAbove(15)", x.ropesAbove(15), 16);
+        promise = 21;
+        due("turnsFor(15)", x.turnsFor(15), 15);
+        askDeepest(x);
+        promise = 7;
+        due("walk(15)", x.walk(15), 120);
+        promise = 20;
+        due("ropesAbove(15)", x.ropesAbove(15), 1);
+        askDeepest(x);
+        promise = 17;
+        due("ropeOf(3, 15)", x.ropeOf(3, 15), 15);
+        due("ropeOf(3, 16)", x.ropeOf(3, 16), NONE);
+        promise = 18;
+        due("placeOf(15)", x.placeOf(15), 15);
+        promise = 16;
+        due("treeOf(0, 3)", x.treeOf(0, 3), 15);
+        due("treeOf(0, 4)", x.treeOf(0, 4), 1);
+        due("treeOf(13, 4)", x.treeOf(13, 4), 9);
+        due("treeOf(15, 5)", x.treeOf(15, 5), 16);
+        due("treeOf(15, 6)", x.treeOf(15, 6), 120);
+        promise = 31;
+        dueAll(x, "0-1-2-3-4-5-6-7-8-9-10-11-12-13-14-15");
+        promise = 11;
+        x.sledge(15);
+        for (int pulls = 1; pulls <= 16; pulls++) {
+            due("pull()", x.pull(), pulls == 16 ? 1 : 0);
+        }
+        due("sledgeOf(0, 2)", x.sledgeOf(0, 2), 16);
+        due("pull()", x.pull(), REFUSED);
+    }
+
+    private static void askDeepest(QuarryRopes x) {
+        promise = 15;
+        due("blockOf(15, 2)", x.blockOf(15, 2), 15);
+        due("blockOf(0, 4)", x.blockOf(0, 4), 15);
+        due("blockOf(15, 5)", x.blockOf(15, 5), 16);
+        promise = 22;
+        due("sum(15)", x.sum(15), 120);
+        promise = 23;
+        due("sumAgain(15)", x.sumAgain(15), 120);
+        promise = 24;
+        due("root(15)", x.root(15), 0);
+        promise = 25;
+        due("rootAgain(15)", x.rootAgain(15), 0);
+        promise = 26;
+        due("joint(15, 0)", x.joint(15, 0), 0);
+        due("joint(0, 15)", x.joint(0, 15), 0);
+        due("joint(15, 14)", x.joint(15, 14), 14);
+        promise = 27;
+        due("jointAgain(15, 0)", x.jointAgain(15, 0), 0);
+        due("jointAgain(0, 15)", x.jointAgain(0, 15), 0);
+        due("jointAgain(15, 14)", x.jointAgain(15, 14), 14);
+        promise = 33;
+        due("isWell()", x.isWell(), 1);
+        promise = 34;
+        due("meanDepth()", x.meanDepth(), 7.5f);
+    }
+
     private static void twoWaysWithoutBlocks() {
         QuarryRopes x = blocks(5, 7);
         for (int block = -1; block <= 2; block += 3) {
@@ -616,6 +684,10 @@ public final class PromiseTests {
         y.walk(15);
         dueLine(y, "tellTree(7)", y.tellTree(7), left.toString());
         due("written(54)", y.written(54), NONE);
+        due("treeOf(0, 3)", y.treeOf(0, 3), 15);
+        due("treeOf(0, 4)", y.treeOf(0, 4), 15);
+        due("turnsFor(0)", y.turnsFor(0), 15);
+        due("placeOf(0)", y.placeOf(0), 0);
     }
 
     private static void tellRopes() {
@@ -813,6 +885,7 @@ public final class PromiseTests {
         promise = 21;
         turnsFor();
         twoWays();
+        deepest();
         twoWaysWithoutBlocks();
         promise = 28;
         sledgeOf();
